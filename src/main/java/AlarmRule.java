@@ -1545,7 +1545,8 @@ public final class AlarmRule {
                 if (morning.sleeps(sleeper)) {
                     listen(ears, morning, sleeper);
                     for (int set = 1; set < SETS; set++) {
-                        heard[set] = heard[set & set - 1] + at(noises, Integer.numberOfTrailingZeros(set));
+                        int noise = at(noises, Integer.numberOfTrailingZeros(set));
+                        heard[set] = at(heard, set & set - 1) + noise;
                         addWaker(set, heard[set], ears.republic.depthOf(sleeper), sleeper);
                     }
                 }
@@ -1560,7 +1561,7 @@ public final class AlarmRule {
                     listen(ears, morning, sleeper);
                     for (int set = 1; set < SETS; set++) {
                         int noise = at(noises, Integer.numberOfTrailingZeros(set));
-                        heard[set] = Math.max(heard[set & set - 1], noise);
+                        heard[set] = Math.max(at(heard, set & set - 1), noise);
                         addWaker(set, heard[set], ears.republic.depthOf(sleeper), sleeper);
                     }
                 }
