@@ -189,6 +189,11 @@ public final class QuestionsTest {
         Checks.work(y, "let 0;set 0 23;hour;");
         Checks.law(y, "day");
         Checks.due("the 47th", 47, y.wakes(0));
+        AlarmRule z = Checks.with("sleeper 1 1;clock 9 9;", "set 0 23;");
+        Checks.law(z, "day");
+        Checks.due("the 48th", 48, z.wakes(0));
+        Checks.law(z, "day / 2");
+        Checks.due("the 72nd does not count", -1, z.wakes(0));
     }
 
     private static void crown() {
@@ -207,6 +212,12 @@ public final class QuestionsTest {
             Checks.with("sleeper 9 1;clock 5 1;clock 5 1;clock 9 1;").crown(0));
         Checks.due("not without a spring", 3,
             Checks.with("sleeper 9 1;clock 5 1;clock 5 1;clock 9 0;").crown(0));
+        String sums = "clock 1 1;clock 5 1;clock 9 1;";
+        Checks.due("just together", 7, Checks.with("sleeper 15 1;" + sums).crown(0));
+        Checks.due("not even together", -1, Checks.with("sleeper 16 1;" + sums).crown(0));
+        Checks.due("1 and 5 together", 3, Checks.with("sleeper 6 1;sleeper 7 1;" + sums).just(1));
+        Checks.due("1 and 9 together", 5, Checks.with("sleeper 10 1;sleeper 11 1;" + sums).just(1));
+        Checks.due("5 and 9 together", 6, Checks.with("sleeper 14 1;sleeper 15 1;" + sums).just(1));
         Checks.due("a greater one may wake too", 1, Checks.with("sleeper 9 1;sleeper 1 1;clock 9 1;").crown(0));
     }
 
@@ -437,6 +448,8 @@ public final class QuestionsTest {
         Checks.illegal("stroke -1", () -> x.stroke(-1));
         Checks.work(x, "set 0 23;");
         Checks.due("hour 23", 23, x.stroke(0));
+        Checks.work(x, "set 0 0;");
+        Checks.due("hour 0", 0, x.stroke(0));
     }
 
     private static void lacks() {
@@ -453,6 +466,8 @@ public final class QuestionsTest {
         Checks.illegal("lacks hour -1", () -> x.lacks(0, -1));
         Checks.law(x, "hour");
         Checks.due("as it is now", 15, x.lacks(0, 2));
+        Checks.due("hour 0", 20, x.lacks(0, 0));
+        Checks.due("hour 23", 20, x.lacks(0, 23));
     }
 
     private static void idleBellsUntil() {
@@ -464,7 +479,9 @@ public final class QuestionsTest {
         Checks.due("idle too", 6, x.idle());
         Checks.due("one bell", 1 << 2, x.bells());
         Checks.due("until 2 of the next day", 21, x.until());
-        Checks.work(x, "set 0 5;");
+        Checks.work(x, "set 0 0;set 1 23;");
+        Checks.due("bells of 0 and 23", 1 | 1 << 23, x.bells());
+        Checks.work(x, "let 1;set 0 5;");
         Checks.due("in this hour", 0, x.until());
         Checks.work(x, "hour;");
         Checks.due("in 23", 23, x.until());
@@ -491,6 +508,8 @@ public final class QuestionsTest {
         AlarmRule y = Checks.with("sleeper 5 1;sleeper 5 1;", "hour;");
         Checks.due("without clocks", 0, y.year(1, 30, 16, 0));
         Checks.due("nobody first", -1, y.year(1, 30, 16, 2));
+        Checks.due("no springs", 0, y.year(1, 30, 16, 1));
+        Checks.due("no socks", 0, y.year(1, 30, 16, 3));
         // Who was first ahead of the year does not count in it.
         AlarmRule z = Checks.with("sleeper 9 1;sleeper 5 1;clock 9 1;", "set 0 0;again 24[hour;];");
         Checks.due("first ahead of it", 1, z.sleeper(0, 4));
@@ -508,6 +527,10 @@ public final class QuestionsTest {
         Checks.due("2 never", 0, x.span(2147483646, 4, 6, 9, 2, 2));
         Checks.due("of one the fewest", 15, x.span(2147483646, 1, 6, 9, 0, 0));
         Checks.due("of two the fewest", 6, x.span(2147483646, 2, 6, 9, 0, 0));
+        Checks.due("a day without a waking", 0, x.span(1, 1, 1, 0, 1, 0));
+        Checks.due("the greatest span", 10, x.span(1, 10, 30, 16, 2, 0));
+        AlarmRule y = Checks.with("sleeper 9 1;clock 9 1;");
+        Checks.due("one day is enough", 1, y.span(1, 1, 2, 0, 2, 0));
         int[][] bad = {{0, 1, 0, 0, 0}, {11, 1, 0, 0, 0}, {1, 0, 0, 0, 0}, {1, 31, 0, 0, 0}, {1, 1, -1, 0, 0},
             {1, 1, 17, 0, 0}, {1, 1, 0, -1, 0}, {1, 1, 0, 3, 0}, {1, 1, 0, 0, 3}, {1, 1, 0, 1, -1}, {1, 1, 0, 2, 3}};
         for (int[] b : bad) Checks.illegal("span", () -> x.span(1, b[0], b[1], b[2], b[3], b[4]));
@@ -530,7 +553,9 @@ public final class QuestionsTest {
         x.undo();
         x.undo();
         x.undo();
-        Checks.work(x, "let 0;");
+        Checks.work(x, "let 0;again 5[hour;];");
+        Checks.work(x, "again 6[hour;];");
+        Checks.work(x, "again 7[hour;];");
         Checks.due("back to the third", 2, x.restore());
         Checks.due("its hour", 3, x.told(2));
         Checks.due("none refused", 0, x.told(11));

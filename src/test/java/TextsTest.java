@@ -134,6 +134,13 @@ public final class TextsTest {
         Checks.due("undo", -1, x.undo());
         Checks.due("none refused", 0, x.told(11));
         Checks.due("status stays", 1, x.status(1));
+        Checks.republic(x, "socks 7;" + PAIR + "sleeper 1 9;");
+        Checks.republic(x, "sleeper 9 1;sleeper 9 1;clock 3 2;");
+        Checks.due("votes of the former one are gone", 1, x.swing(0));
+        Checks.due("its springs", 2, x.told(9));
+        Checks.due("how near it was", 0, x.near(1, 0));
+        Checks.due("its socks", 2, x.told(8));
+        Checks.due("its clocks", 1, x.told(1));
     }
 
     private static void lawIs(String text, int value) {
@@ -176,6 +183,7 @@ public final class TextsTest {
         lawIs("(((((( loud ))))))", 11);
         lawIs("least[most[(least[most[(1),2],3]),4],5]", 4);
         lawIs("(((((1)))))+((((((2))))))", 3);
+        lawIs("((((least[1,most[2,3]]))))", 1);
         AlarmRule x = Checks.with(PAIR);
         Checks.law(x, "50");
         Checks.illegal("law of 151", () -> {
@@ -190,6 +198,12 @@ public final class TextsTest {
         Checks.illegal("law above the tape", () -> x.law(1));
         Checks.due("149 blanks and a number", 1, Checks.law(x, " ".repeat(149) + "7"));
         Checks.due("the law", 7, x.noise(0, 0));
+        Checks.feed(x, "123456loud");
+        Checks.due("digits behind the text", 1, x.law(2));
+        Checks.due("do not count", 12, x.noise(0, 0));
+        Checks.feed(x, "loudness");
+        Checks.due("nor letters", 1, x.law(4));
+        Checks.due("so loud", 12, x.noise(0, 1));
         Checks.due("75 numbers", 1, Checks.law(x, "1+".repeat(74) + "1"));
         Checks.due("their sum", 75, x.noise(0, 0));
     }
@@ -282,6 +296,7 @@ public final class TextsTest {
         Checks.due("move", 2, Checks.work(x, "move 0 1 4;move 0 1 9;move 0 1 9;move 1 0 3;"));
         Checks.due("moved", 9, x.near(1, 0));
         Checks.due("moved too", 3, x.near(0, 1));
+        Checks.due("not near at all", 2, Checks.work(x, "move 0 1 0;move 0 1 0;move 0 1 9;"));
         Checks.due("snooze of one who sleeps", 0, Checks.work(x, "snooze 0;"));
         Checks.due("hour wakes", 1, Checks.work(x, "hour;"));
         Checks.due("who woke", 1, x.told(4));
