@@ -542,7 +542,6 @@ public final class QuestionsTest {
         Checks.due("no image", -1, x.restore());
         Checks.due("the first", 1, x.image());
         Checks.work(x, "hour;let 0;");
-        Checks.due("a failed restore leaves it", 1, x.told(11));
         Checks.due("the second", 2, x.image());
         Checks.work(x, "sock 1;hour;let 0;");
         Checks.work(x, "hour;");
@@ -575,7 +574,9 @@ public final class QuestionsTest {
         Checks.due("no works", 0, x.count(2));
         Checks.due("the law stays", 42, x.noise(0, 0));
         Checks.due("the book stays", 1, x.told(10));
+        Checks.work(x, "let 0;");
         Checks.due("none is left", -1, x.restore());
+        Checks.due("and nothing changed", 1, x.told(11));
     }
 
     private static void statusAndCount() {
