@@ -4,6 +4,8 @@ import java.util.NoSuchElementException;
 final class Checks {
     static int made = 0;
     static int wrong = 0;
+    /** The name of the test that is run; empty where a class of tests has none. */
+    static String within = "";
 
     interface Call {
         long answer();
@@ -33,7 +35,7 @@ final class Checks {
 
     private static void tellWrong(String line) {
         wrong++;
-        System.out.println(line);
+        System.out.println(within.isEmpty() ? line : within + ": " + line);
     }
 
     /** Feeds a text, the last twenty bytes being filled up by zeros. */

@@ -20,6 +20,7 @@ public final class LanguageTest {
     public static void main(String[] args) throws Exception {
         String source = Files.readString(Path.of("src/main/java/AlarmRule.java"));
         face();
+        signatures(Files.readString(Path.of("../shared/DOC.md")));
         classes();
         words(stripped(source));
         library(stripped(source));
@@ -47,6 +48,32 @@ public final class LanguageTest {
         }
         hold("final", Modifier.isFinal(AlarmRule.class.getModifiers()));
         hold("one constructor", AlarmRule.class.getDeclaredConstructors().length == 1);
+    }
+
+    /** Each method as the document's face writes it: its type, its numbers, what it throws. */
+    private static void signatures(String document) {
+        Matcher told = Pattern.compile("    public (int|long) (\\w+)\\(([^)]*)\\)( throws ([\\w, ]+))?;").matcher(document);
+        int many = 0;
+        while (told.find()) {
+            many++;
+            hold(told.group(2) + " is as the document's", has(told.group(1), told.group(2), told.group(3), told.group(5)));
+        }
+        Checks.due("methods of the face", FACE.split(" ").length, many);
+        Checks.due("NONE", -1, AlarmRule.NONE);
+    }
+
+    private static boolean has(String type, String name, String numbers, String thrown) {
+        int many = numbers.isEmpty() ? 0 : numbers.split(",").length;
+        Class<?>[] types = new Class<?>[many];
+        Arrays.fill(types, int.class);
+        List<String> due = thrown == null ? List.of() : List.of(thrown.split(", "));
+        try {
+            Method m = AlarmRule.class.getMethod(name, types);
+            List<String> got = Arrays.stream(m.getExceptionTypes()).map(Class::getSimpleName).toList();
+            return m.getReturnType().getName().equals(type) && got.equals(due);
+        } catch (NoSuchMethodException e) {
+            return false;
+        }
     }
 
     private static void classes() {
