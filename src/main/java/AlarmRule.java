@@ -1238,8 +1238,8 @@ public final class AlarmRule {
                 case MULTIPLY: return one * other;
                 case DIVIDE: return other == 0 ? 0 : one / other;
                 case REMAIN: return other == 0 ? 0 : one % other;
-                case LEAST: return Math.min(one, other);
-                default: return Math.max(one, other);
+                case LEAST: return one < other ? one : other;
+                default: return one > other ? one : other;
             }
         }
     }
